@@ -540,7 +540,8 @@ public final class GiftRegister {
         }
 
         private void reach(int near, int other, int degree) {
-            if (has(near) && has(other) && degrees[near] == degree - 1 && degrees[other] == FAR) {
+            boolean areThere = near >= 0 && near < MOST_PARTIES && other >= 0 && other < MOST_PARTIES;
+            if (areThere && degrees[near] == degree - 1 && degrees[other] == FAR) {
                 degrees[other] = degree;
             }
         }
@@ -678,16 +679,18 @@ public final class GiftRegister {
         }
 
         private void findHeads() {
+            long ruled = 0;
             for (int x = 0; x < MOST_PARTIES; x++) {
                 controlled[x] = controlledBy(x);
+                ruled |= controlled[x];
             }
             for (int x = 0; x < MOST_PARTIES; x++) {
-                heads[x] = headAmong(x);
+                heads[x] = headAmong(x, ruled);
             }
             headsFound = true;
         }
 
-        /** All that x controls, as bits, found by going on from x alone. */
+        /** All others that x controls, as bits, found by going on from x alone. */
         private long controlledBy(int x) {
             Arrays.fill(together, 0);
             long found = 0;
@@ -695,10 +698,10 @@ public final class GiftRegister {
             queue[0] = x;
             for (int taken = 0; taken < waiting && taken < MOST_PARTIES; taken++) {
                 int holder = queue[taken];
-                for (int arrow = firstArrow(holder); arrow < pastArrows(holder); arrow++) {
-                    int f = targetOf(arrow);
-                    if (f >= 0 && f < MOST_PARTIES && f != x && (found >> f & 1) == 0) {
-                        together[f] += partOn(arrow);
+                for (int arrow = starts[holder]; arrow < starts[holder + 1] && arrow < MOST_OWNS; arrow++) {
+                    int f = targets[arrow];
+                    if (f != x && (found >> f & 1) == 0) {
+                        together[f] += parts[arrow];
                         if (together[f] > HALF && waiting < MOST_PARTIES) {
                             found |= 1L << f;
                             queue[waiting] = f;
@@ -710,26 +713,18 @@ public final class GiftRegister {
             return found;
         }
 
-        private int headAmong(int x) {
+        /** The least that controls x and is not ruled itself; without such a one, the least of all of them and x. */
+        private int headAmong(int x, long ruled) {
             int least = x;
             for (int y = 0; y < MOST_PARTIES; y++) {
                 if ((controlled[y] >> x & 1) != 0) {
-                    if (isFree(y)) {
+                    if ((ruled >> y & 1) == 0) {
                         return y;
                     }
                     least = Math.min(least, y);
                 }
             }
             return least;
-        }
-
-        private boolean isFree(int y) {
-            for (int z = 0; z < MOST_PARTIES; z++) {
-                if ((controlled[z] >> y & 1) != 0) {
-                    return false;
-                }
-            }
-            return true;
         }
     }
 
@@ -1628,6 +1623,12 @@ public final class GiftRegister {
 
     /** What the law in force says of gifts, matters and members. */
     private static final class Judge {
+        private static final int NEED_NOT = 0;
+        private static final int TOLD_IN_TIME = 1;
+        private static final int TOLD_LATE = 2;
+        private static final int NOT_TOLD_YET = 3;
+        private static final int NOT_TOLD_LATE = 4;
+
         private final Parties parties;
         private final Owners owners;
         private final Chains chains;
@@ -1669,38 +1670,32 @@ public final class GiftRegister {
         int recordOf(int person, int t, int what) {
             int answer = 0;
             for (int g = 0; g < gifts.total(); g++) {
-                if (gifts.isKnown(g, t) && gifts.receiver(g) == person) {
-                    answer += recordOfGift(g, t, what);
+                if (!gifts.isKnown(g, t) || gifts.receiver(g) != person) {
+                    continue;
+                }
+                boolean isTold = gifts.toldOn(g, t) != NONE;
+                if (what == 0 || what == 1 && isTold) {
+                    answer++;
+                } else if (what == 4 && isTold) {
+                    answer += gifts.leastOf(g, t);
+                } else if (what == 2 || what == 3) {
+                    decide(g, t);
+                    answer += stateOf(g, t) == (what == 2 ? TOLD_LATE : NOT_TOLD_LATE) ? 1 : 0;
                 }
             }
             return answer;
         }
 
-        private int recordOfGift(int g, int t, int what) {
-            boolean isTold = gifts.toldOn(g, t) != NONE;
-            switch (what) {
-                case 0:
-                    return 1;
-                case 1:
-                    return isTold ? 1 : 0;
-                case 4:
-                    return isTold ? gifts.leastOf(g, t) : 0;
-                default:
-                    decide(g, t);
-                    return stateOf(g, t) == (what == 2 ? 2 : 4) ? 1 : 0;
-            }
-        }
-
         /** The state by the rule and the day when due that were decided last. */
         private int stateOf(int g, int t) {
             if (rule == NONE) {
-                return 0;
+                return NEED_NOT;
             }
             int told = gifts.toldOn(g, t);
             if (told != NONE) {
-                return told <= due ? 1 : 2;
+                return told <= due ? TOLD_IN_TIME : TOLD_LATE;
             }
-            return t <= due ? 3 : 4;
+            return t <= due ? NOT_TOLD_YET : NOT_TOLD_LATE;
         }
 
         /** Finds the first tell whose condition holds, and the day when the gift is due by it. */
@@ -1716,7 +1711,8 @@ public final class GiftRegister {
                 values[sort] = 1;
             }
             values[FOREIGN] = gifts.isForeign(g) ? 1 : 0;
-            values[KIN] = parties.isPerson(giver) && parties.degreeOf(receiver, giver, day, t) <= law.kinLimit() ? 1 : 0;
+            boolean isKin = parties.isPerson(giver) && parties.degreeOf(receiver, giver, day, t) <= law.kinLimit();
+            values[KIN] = isKin ? 1 : 0;
             values[LEAST] = gifts.leastOf(g, t);
             values[MOST] = gifts.mostOf(g, t);
             rule = NONE;
@@ -2111,20 +2107,14 @@ public final class GiftRegister {
         int tallyOf(int t, int what) {
             int tally = 0;
             for (int i = 0; i < voteTotal && i < MOST_VOTES; i++) {
-                boolean isAsked = what == 0 || what == 2 || votesFor[i];
-                if (knowns[i] <= t && isAsked && (what < 2 || isWarm(i, t))) {
+                int m = voteMatters[i];
+                boolean isFor = what == 0 || what == 2 || votesFor[i];
+                if (knowns[i] <= t && isFor && hasMatter(m)
+                        && (what < 2 || judge.isWarm(voters[i], subjects[m], days[m], t))) {
                     tally++;
                 }
             }
             return tally;
-        }
-
-        private boolean isWarm(int vote, int t) {
-            if (vote < 0 || vote >= MOST_VOTES) {
-                return false;
-            }
-            int m = voteMatters[vote];
-            return hasMatter(m) && judge.isWarm(voters[vote], subjects[m], days[m], t);
         }
 
         /** Of all ways to draw those for, the ways in which as many or more of the warm ones are drawn. */
