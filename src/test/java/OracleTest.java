@@ -1090,6 +1090,9 @@ public final class OracleTest {
         final int span;
         final int people;
         final int bodies;
+        // Runs of few days, names and worths, so that entries fit many gifts; runs whose sorts come mixed.
+        final boolean dense;
+        final boolean mixed;
         int calls;
 
         Run(long seed) {
@@ -1098,6 +1101,8 @@ public final class OracleTest {
             span = new int[] {20, 60, 400, 9999}[random.nextInt(4)];
             people = 2 + random.nextInt(random.nextInt(3) == 0 ? 25 : 8);
             bodies = 1 + random.nextInt(random.nextInt(3) == 0 ? 20 : 8);
+            dense = random.nextInt(3) == 0;
+            mixed = random.nextInt(4) == 0;
         }
 
         long guarded(Call call) {
@@ -1120,13 +1125,19 @@ public final class OracleTest {
             }
         }
 
+        static final int[] WILD = {Integer.MIN_VALUE, -1000, -2, -1, 60, 61, 9999, 10000, 1000001, Integer.MAX_VALUE};
+
+        int wild() {
+            return WILD[random.nextInt(WILD.length)];
+        }
+
         int in(int least, int most) {
             return least + random.nextInt(most - least + 1);
         }
 
         int day() {
             int odd = random.nextInt(60);
-            return odd == 0 ? -1 : odd == 1 ? 10000 : odd == 2 ? 9999 : odd == 3 ? 0 : random.nextInt(span + 1);
+            return odd == 0 ? wild() : odd == 1 ? 10000 : odd == 2 ? 9999 : odd == 3 ? 0 : random.nextInt(span + 1);
         }
 
         int time() {
@@ -1136,7 +1147,7 @@ public final class OracleTest {
         }
 
         int any() {
-            return random.nextInt(50) == 0 ? in(-2, 62) : random.nextInt(Math.max(1, slow.sorts.size()));
+            return random.nextInt(200) == 0 ? wild() : random.nextInt(50) == 0 ? in(-2, 62) : random.nextInt(Math.max(1, slow.sorts.size()));
         }
 
         int person() {
@@ -1268,11 +1279,11 @@ public final class OracleTest {
         }
 
         void go() {
-            for (int i = 0; i < people; i++) {
-                addParty(0);
+            for (int i = 0; i < people + bodies; i++) {
+                addParty(mixed ? in(0, 2) : i < people ? 0 : in(1, 2));
             }
-            for (int i = 0; i < bodies; i++) {
-                addParty(in(1, 2));
+            if (dense) {
+                list();
             }
             int early = in(0, 200);
             while (calls < early) {
@@ -1287,6 +1298,40 @@ public final class OracleTest {
                 } else {
                     build();
                 }
+            }
+        }
+
+        /** Gifts and entries that fit each other in many ways. */
+        void list() {
+            int names = in(1, 2);
+            int givers = in(1, 2);
+            for (int i = in(2, 60); i > 0; i--) {
+                int giver = slow.sorts.size() - 1 - random.nextInt(givers);
+                int to = random.nextInt(names);
+                int least = in(0, 9);
+                int most = least + in(0, 4);
+                int day = in(0, 5);
+                check("gift(" + giver + ", " + to + ", 0, " + day + ", false, " + least + ", " + most + ")",
+                    () -> fast.gift(giver, to, 0, day, false, least, most), () -> slow.gift(giver, to, 0, day, false, least, most));
+                int g = slow.gifts.size() - 1;
+                if (random.nextInt(8) > 0) {
+                    check("tell(" + g + ")", () -> fast.tell(g) ? 1 : 0, () -> slow.tell(g));
+                }
+            }
+            for (int i = in(2, 40); i > 0; i--) {
+                int to = random.nextInt(names);
+                if (slow.names.size() > to) {
+                    put(slow.names.get(to));
+                }
+                int giver = slow.sorts.size() - 1 - random.nextInt(givers);
+                int day = in(0, 5);
+                int worth = in(0, 12);
+                check("entry(" + giver + ", " + day + ", " + worth + ")", () -> fast.entry(giver, day, worth), () -> slow.entry(giver, day, worth));
+            }
+            check("joined(0)", () -> fast.joined(0), () -> slow.joined(0));
+            for (int i = 0; i < slow.entries.size(); i++) {
+                int e = i;
+                check("entered(" + e + ", 0, 0)", () -> fast.entered(e, 0, 0), () -> slow.entered(e, 0, 0));
             }
         }
 
@@ -1368,7 +1413,7 @@ public final class OracleTest {
         }
 
         int giftNumber() {
-            return random.nextInt(15) == 0 ? in(-1, 121) : random.nextInt(Math.max(1, slow.gifts.size()));
+            return random.nextInt(200) == 0 ? wild() : random.nextInt(15) == 0 ? in(-1, 121) : random.nextInt(Math.max(1, slow.gifts.size()));
         }
 
         void ask() {

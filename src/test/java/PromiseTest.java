@@ -110,6 +110,7 @@ public final class PromiseTest {
         lawFaults();
         lawLimits();
         lawsInForce();
+        lawsBehindFaults();
         partAndChain();
         heads();
         degrees();
@@ -519,6 +520,9 @@ public final class PromiseTest {
         fails("tell if " + "(".repeat(21) + "gift", 4, 28);
         stands("tell if " + "not ".repeat(19) + "gift;", 1);
         fails("tell if " + "not ".repeat(20) + "gift;", 4, 88);
+        stands("tell if not gift" + " and not gift".repeat(25) + ";", 1);
+        stands("tell if (gift)" + " or (gift)".repeat(25) + ";", 1);
+        stands("tell if not (not gift)" + " or not (not gift)".repeat(12) + ";", 1);
         stands("tell if " + "not(".repeat(9) + "not gift" + ")".repeat(9) + ";", 1);
         stands("tell if " + "(".repeat(19) + "gift" + ")".repeat(19) + " and " + "(".repeat(19) + "gift" + ")".repeat(19) + ";", 1);
 
@@ -562,6 +566,38 @@ public final class PromiseTest {
         is("", law(r, 100, ""), 0);
         is("the empty one", r.judged(0, 10, 2), -1);
         is("state", r.judged(0, 10, 0), 0);
+    }
+
+    /** What a text that has a fault tells is not in the one that comes behind it. */
+    private static void lawsBehindFaults() {
+        where = "13 a law behind a fault";
+        GiftRegister r = with(3, 1);
+        r.kin(0, 1, 0, -1);
+        r.kin(1, 2, 0, -1);
+        r.post(0, 3, 0, 100);
+        r.gift(3, 0, 0, 400, false, 1, 1);
+        r.gift(3, 0, 0, 100, false, 1, 1);
+        r.gift(3, 2, 0, 400, false, 1, 1);
+        r.matter(3, 400);
+        r.matter(3, 465);
+        r.member(0);
+        r.vote(0, 0, true);
+        String all = "kin 2;year 1;old 9;link 400;quorum 3;sit if not kin;may if not kin;tell within 3 if gift and (meal or not share";
+        is("a fault at the end", law(r, 0, all), -1 - all.length());
+        is("no rule", law(r, 0, "sit if post;"), 1);
+        is("old", r.sits(1, 0, 0), 2);
+        is("no may", r.sits(0, 1, 0), 0);
+        is("quorum", r.quorum(0, 0), 0);
+        is("no tell", r.judged(0, 0, 1), -1);
+        is("year", r.judged(0, 0, 8), 2);
+        is("a fault at the end", law(r, 0, all), -1 - all.length());
+        is("kin told once", law(r, 0, "kin 1;may if kin or not kin;tell if (gift);"), 3);
+        is("no sit", r.sits(0, 0, 0), 1);
+        is("tell", r.judged(0, 0, 2), 430);
+        is("kin", r.judged(2, 0, 8), 1);
+        is("link", r.links(0, 2), 1);
+        is("a fault behind many", law(r, 0, wide(60) + ";"), -1 - wide(60).length());
+        is("as many again", law(r, 0, wide(60)), 1);
     }
 
     private static void partAndChain() {
@@ -692,6 +728,29 @@ public final class PromiseTest {
         ring.owns(5, 1, 4000, 0, -1);
         is("less than half changes nothing", ring.head(1, 0, 0), 1);
 
+        // 1 controls 2 and 3, each of which is enough for 4; what 4 has in 5 counts once alone.
+        GiftRegister once = with(2, 4);
+        once.owns(1, 2, 6000, 0, -1);
+        once.owns(1, 3, 6000, 0, -1);
+        once.owns(2, 4, 5001, 0, -1);
+        once.owns(3, 4, 4999, 0, -1);
+        once.owns(4, 5, 3000, 0, -1);
+        is("controlled", once.head(4, 0, 0), 1);
+        is("counts once", once.head(5, 0, 0), 5);
+        once.owns(3, 5, 2000, 0, -1);
+        is("not yet", once.head(5, 0, 0), 5);
+        once.owns(2, 5, 1, 0, -1);
+        is("together", once.head(5, 0, 0), 1);
+
+        GiftRegister first = new GiftRegister();
+        party(first, "f", 1);
+        party(first, "p", 0);
+        first.owns(1, 0, 6000, 0, -1);
+        is("party 0 has a head", first.head(0, 0, 0), 1);
+        is("a part in party 0", first.asked(1, 0, 5), 6000);
+        is("a chain to party 0", first.chain(1, 0, 0, 0), 2);
+        outIs(first, "1 0");
+
         GiftRegister two = with(2, 3);
         // Two halves of the parts of 4 are in 2 and 3, both controlled by 1 alone.
         two.owns(1, 2, 5001, 0, -1);
@@ -776,6 +835,9 @@ public final class PromiseTest {
         is("not binds closest", ruleBy("tell if not meal and share;"), 10);
         is("not of brackets", ruleBy("tell if not(meal or share);"), 1);
         is("not not", ruleBy("tell if not not meal;"), 100);
+        is("seven digits", ruleBy("tell if most<0000020 or most>9999998;"), 0);
+        is("seven digits", ruleBy("tell if most=0000020;"), 111);
+        is("seven digits", ruleBy("tell if not most<1000000;"), 0);
         is("no tell", ruleBy("sit if kin;"), 0);
         is("deep", ruleBy("tell if " + "(gift or ".repeat(9) + "meal" + ")".repeat(9) + ";"), 100);
         is("deep with and waiting", ruleBy("tell if " + "foreign or foreign and(".repeat(18) + "share" + ")".repeat(18) + ";"), 100);
@@ -1030,6 +1092,10 @@ public final class PromiseTest {
         is("on the day", r.sits(0, 0, 2), 2);
         law(r, 0, "sit if post;");
         is("365 days without a number", r.sits(0, 1, 2), 2);
+        r.matter(3, 100 + 365);
+        r.matter(3, 101 + 365);
+        is("the last of them", r.sits(1, 0, 2), 2);
+        is("no more", r.sits(2, 0, 2), 0);
     }
 
     private static void quorums() {
@@ -1186,6 +1252,36 @@ public final class PromiseTest {
         is("the first yields, so that both are", s.entered(0, 0, 0), 1);
         is("the second", s.entered(1, 0, 0), 0);
 
+        // Entries fit 0 1 | 0 | 1: the first keeps 0, so the second, not the third, is the gap.
+        GiftRegister gap = with(2, 2);
+        gap.gift(2, 0, 0, 50, false, 10, 20);
+        gap.gift(2, 0, 0, 50, false, 20, 30);
+        gap.tell(0);
+        gap.tell(1);
+        entry(gap, "paa", 2, 50, 20);
+        entry(gap, "paa", 2, 50, 10);
+        entry(gap, "paa", 2, 50, 30);
+        is("two of three", gap.joined(0), 2);
+        is("the first", gap.entered(0, 0, 0), 0);
+        is("a gap", gap.entered(1, 0, 0), -1);
+        is("the third", gap.entered(2, 0, 0), 1);
+
+        // Entries fit 0 1 2 | 0 | 1 2: the first can't keep 0, the second needs it; 1 is the least that is left.
+        GiftRegister way = with(2, 2);
+        way.gift(2, 0, 0, 50, false, 10, 20);
+        way.gift(2, 0, 0, 50, false, 20, 30);
+        way.gift(2, 0, 0, 50, false, 20, 30);
+        for (int g = 0; g < 3; g++) {
+            way.tell(g);
+        }
+        entry(way, "paa", 2, 50, 20);
+        entry(way, "paa", 2, 50, 10);
+        entry(way, "paa", 2, 50, 30);
+        is("three", way.joined(0), 3);
+        is("the least that may be", way.entered(0, 0, 0), 1);
+        is("the only one", way.entered(1, 0, 0), 0);
+        is("what is left", way.entered(2, 0, 0), 2);
+
         GiftRegister most = with(1, 1);
         for (int g = 0; g < 100; g++) {
             most.gift(1, 0, 0, 50, false, g, 100);
@@ -1196,6 +1292,20 @@ public final class PromiseTest {
         }
         is("a hundred", most.joined(0), 100);
         is("each but its own", most.entered(37, 0, 0), 37);
+        is("the last", most.entered(99, 0, 0), 99);
+
+        GiftRegister high = with(1, 1);
+        for (int g = 0; g < 120; g++) {
+            high.gift(1, 0, 0, g < 100 ? 500 : 50, false, 10, g == 119 ? 10 : 20);
+            high.tell(g);
+        }
+        for (int e = 0; e < 21; e++) {
+            entry(high, "paa", 1, 50, e < 20 ? 10 : 11);
+        }
+        is("gifts of high numbers", high.joined(0), 20);
+        is("rising", high.entered(18, 0, 0), 118);
+        is("the last one", high.entered(19, 0, 0), 119);
+        is("then none", high.entered(20, 0, 0), -1);
     }
 
     private static void votes() {
