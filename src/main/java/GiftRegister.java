@@ -700,7 +700,7 @@ public final class GiftRegister {
                 int holder = queue[taken];
                 for (int arrow = starts[holder]; arrow < starts[holder + 1] && arrow < MOST_OWNS; arrow++) {
                     int f = targets[arrow];
-                    if (f != x && (found >> f & 1) == 0) {
+                    if (f >= 0 && f < MOST_PARTIES && f != x && (found >> f & 1) == 0) {
                         together[f] += parts[arrow];
                         if (together[f] > HALF && waiting < MOST_PARTIES) {
                             found |= 1L << f;
@@ -1389,17 +1389,17 @@ public final class GiftRegister {
         }
 
         int add(int from, int known, int[] text, int length) {
-            if (size < 0 || size >= MOST_LAWS || !isDay(from)) {
+            if (size < 0 || size >= MOST_LAWS || laws[size] == null || !isDay(from)) {
                 return REFUSED;
             }
-            draft = laws[size] == null ? empty : laws[size];
+            draft = laws[size];
             draft.clear(from, known);
             tokens.open(text, length);
             fault = NO_FAULT;
             state = AT_RULE;
             told = 0;
             ones = 0;
-            // No token is empty, so one more than the edge has bytes come at most.
+            // No token is empty, so that there are no more of them than bytes ahead of the edge, and the end.
             for (int i = 0; i <= Tokens.EDGE && fault == NO_FAULT && state != AT_REST; i++) {
                 tokens.advance();
                 fault = take(tokens.kind(), tokens.value());

@@ -709,6 +709,11 @@ public final class PromiseTest {
         r.owns(7, 8, 10000, 0, -1);
         is("known then", r.head(8, 0, 5), 1);
         is("not known then", r.head(8, 0, 4), 8);
+        is("known then", r.head(8, 0, 5), 1);
+        is("not known on day 0, asked behind another one", r.head(8, 0, 0), 8);
+        is("ahead of more", r.head(8, 10, 5), 1);
+        r.owns(0, 4, 4000, 9000, -1);
+        is("told between two that are alike", r.head(8, 10, 5), 1);
         is("t below", r.head(7, 0, -1), 7);
         is("no such party", r.head(9, 0, 0), -1);
         is("party -1", r.head(-1, 0, 0), -1);
@@ -783,6 +788,12 @@ public final class PromiseTest {
         r.kin(0, 3, 0, -1);
         is("shorter", r.degree(0, 4, 10, 4), 2);
         is("not known", r.degree(0, 4, 10, 3), 4);
+        is("the day ahead of all, asked behind another one", r.degree(0, 1, 10, 4), 1);
+        is("the day ahead of all, asked behind another one", r.degree(0, 1, 0, 4), 5);
+        is("as known", r.degree(0, 3, 0, 4), 1);
+        is("as known on day 0, asked behind another one", r.degree(0, 3, 0, 0), 5);
+        r.kin(0, 6, 0, -1);
+        is("told between two that are alike", r.degree(0, 6, 0, 4), 1);
         is("t below", r.degree(0, 1, 10, -1), 5);
         is("itself, t below", r.degree(6, 6, 10, -1), 0);
         is("a firm", r.degree(0, 7, 10, 0), -1);
