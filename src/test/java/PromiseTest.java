@@ -792,6 +792,7 @@ public final class PromiseTest {
         is("the day ahead of all, asked behind another one", r.degree(0, 1, 0, 4), 5);
         is("as known", r.degree(0, 3, 0, 4), 1);
         is("as known on day 0, asked behind another one", r.degree(0, 3, 0, 0), 5);
+        is("as known", r.degree(0, 6, 0, 4), 5);
         r.kin(0, 6, 0, -1);
         is("told between two that are alike", r.degree(0, 6, 0, 4), 1);
         is("t below", r.degree(0, 1, 10, -1), 5);
