@@ -697,11 +697,11 @@ public final class GiftRegister {
             int waiting = 1;
             queue[0] = x;
             for (int taken = 0; taken < waiting && taken < MOST_PARTIES; taken++) {
-                int holder = queue[taken];
-                for (int arrow = starts[holder]; arrow < starts[holder + 1] && arrow < MOST_OWNS; arrow++) {
-                    int f = targets[arrow];
+                int past = pastArrows(queue[taken]);
+                for (int arrow = firstArrow(queue[taken]); arrow < past; arrow++) {
+                    int f = targetOf(arrow);
                     if (f >= 0 && f < MOST_PARTIES && f != x && (found >> f & 1) == 0) {
-                        together[f] += parts[arrow];
+                        together[f] += partOn(arrow);
                         if (together[f] > HALF && waiting < MOST_PARTIES) {
                             found |= 1L << f;
                             queue[waiting] = f;
@@ -824,12 +824,14 @@ public final class GiftRegister {
         private void keepBest(int length, long product) {
             boolean isBetter = bestLength == 0 || product > bestProduct
                     || product == bestProduct && length < bestLength;
-            if (!isBetter || length < 0 || length > path.length || length > best.length) {
+            if (!isBetter) {
                 return;
             }
             bestLength = length;
             bestProduct = product;
-            System.arraycopy(path, 0, best, 0, length);
+            for (int i = 0; i < length && i < path.length && i < best.length; i++) {
+                best[i] = path[i];
+            }
         }
     }
 
@@ -1857,17 +1859,25 @@ public final class GiftRegister {
             return size;
         }
 
+        private boolean has(int e) {
+            return e >= 0 && e < size && e < MOST_ENTRIES;
+        }
+
+        private static boolean isGift(int g) {
+            return g >= 0 && g < MOST_GIFTS;
+        }
+
         boolean isKnown(int e, int t) {
-            return e >= 0 && e < size && e < MOST_ENTRIES && knowns[e] <= t;
+            return has(e) && knowns[e] <= t;
         }
 
         int bearersOf(int e) {
-            return e >= 0 && e < MOST_ENTRIES ? parties.peopleNamed(names[e]) : 0;
+            return has(e) ? parties.peopleNamed(names[e]) : 0;
         }
 
         /** The gift by the joining made last, NONE for a gap. */
         int giftJoined(int e) {
-            return e >= 0 && e < MOST_ENTRIES ? giftOf[e] : NONE;
+            return has(e) ? giftOf[e] : NONE;
         }
 
         /** Joins the most entries, then settles one after the other on the least gift that keeps as many. */
@@ -1876,22 +1886,23 @@ public final class GiftRegister {
             Arrays.fill(giftOf, NONE);
             Arrays.fill(entryOf, NONE);
             Arrays.fill(open, -1);
-            for (int e = 0; e < size && e < MOST_ENTRIES; e++) {
-                if (knowns[e] <= t) {
-                    findFits(e, t);
-                }
+            for (int e = 0; e < size; e++) {
+                findFits(e, t);
             }
             int joins = 0;
             while (joins < MOST_ENTRIES && grow(0)) {
                 joins++;
             }
-            for (int e = 0; e < size && e < MOST_ENTRIES; e++) {
+            for (int e = 0; e < size; e++) {
                 settle(e);
             }
             return joins;
         }
 
         private void findFits(int e, int t) {
+            if (!isKnown(e, t)) {
+                return;
+            }
             int group = owners.headOf(givers[e], days[e], t);
             for (int g = 0; g < gifts.total() && g < MOST_GIFTS; g++) {
                 int apart = gifts.dayOf(g) - days[e];
@@ -1907,6 +1918,9 @@ public final class GiftRegister {
 
         /** Whether the entry fits the gift and the gift is among these. */
         private boolean isChoice(int e, int g, long[] among) {
+            if (!has(e) || !isGift(g)) {
+                return false;
+            }
             int half = g / BITS;
             return (fits[e * HALVES + half] & among[half] & 1L << g % BITS) != 0;
         }
@@ -1915,8 +1929,8 @@ public final class GiftRegister {
         private boolean grow(int first) {
             System.arraycopy(open, 0, unseen, 0, HALVES);
             waiting = 0;
-            for (int e = Math.max(first, 0); e < size && e < MOST_ENTRIES; e++) {
-                if (giftOf[e] == NONE) {
+            for (int e = first; e < size; e++) {
+                if (giftJoined(e) == NONE) {
                     await(e);
                 }
             }
@@ -1931,7 +1945,7 @@ public final class GiftRegister {
         }
 
         private void await(int e) {
-            if (e >= 0 && e < MOST_ENTRIES && waiting >= 0 && waiting < MOST_ENTRIES) {
+            if (waiting >= 0 && waiting < MOST_ENTRIES) {
                 queue[waiting] = e;
                 waiting++;
             }
@@ -1955,12 +1969,18 @@ public final class GiftRegister {
         /** Goes back along the way found: each entry on it takes the gift that it reached. */
         private void shift(int gift) {
             int g = gift;
-            for (int i = 0; i < MOST_ENTRIES && g >= 0 && g < MOST_GIFTS; i++) {
+            for (int i = 0; i < MOST_ENTRIES && isGift(g); i++) {
                 int e = cameFrom[g];
-                int left = giftOf[e];
+                int left = giftJoined(e);
+                put(e, g);
+                g = left;
+            }
+        }
+
+        private void put(int e, int g) {
+            if (has(e) && isGift(g)) {
                 giftOf[e] = g;
                 entryOf[g] = e;
-                g = left;
             }
         }
 
@@ -1969,7 +1989,7 @@ public final class GiftRegister {
                 if (isChoice(e, g, open)) {
                     // What one entry is settled on is no way for those behind it.
                     open[g / BITS] &= ~(1L << g % BITS);
-                    if (giftOf[e] == g || force(e, g)) {
+                    if (giftJoined(e) == g || force(e, g)) {
                         return;
                     }
                     open[g / BITS] |= 1L << g % BITS;
@@ -1979,24 +1999,24 @@ public final class GiftRegister {
 
         /** Gives the gift to the entry if as many stay joined; otherwise all is as it was. */
         private boolean force(int e, int g) {
-            int left = giftOf[e];
+            if (!isGift(g)) {
+                return false;
+            }
+            int left = giftJoined(e);
             int holder = entryOf[g];
-            giftOf[e] = g;
-            entryOf[g] = e;
-            if (left >= 0 && left < MOST_GIFTS) {
+            put(e, g);
+            if (isGift(left)) {
                 entryOf[left] = NONE;
             }
-            if (holder < 0 || holder >= MOST_ENTRIES) {
+            if (!has(holder)) {
                 return true;
             }
             giftOf[holder] = NONE;
-            if (left < 0 || left >= MOST_GIFTS || grow(e + 1)) {
+            if (!isGift(left) || grow(e + 1)) {
                 return true;
             }
-            giftOf[holder] = g;
-            entryOf[g] = holder;
-            giftOf[e] = left;
-            entryOf[left] = e;
+            put(holder, g);
+            put(e, left);
             return false;
         }
     }
