@@ -30,9 +30,15 @@ public final class EdgeTest {
         long as(GiftRegister r, int t);
     }
 
+    private interface Spanned {
+        void on(GiftRegister r, int from, int until);
+    }
+
     public static void main(String[] args) {
         twoTimes();
         days();
+        onTheDayAsOf();
+        onTheDayInGroups();
         partiesThere();
         names();
         numbering();
@@ -318,6 +324,99 @@ public final class EdgeTest {
         is("chain" + on, r.chain(0, 2, day, today), -1);
         is("head" + on, r.head(2, day, today), -1);
         is("degree" + on, r.degree(0, 1, day, today), -1);
+    }
+
+    /** What is asked of day 100 hangs on a fact of that day alone, and on that it is KNOWN; 0, 1 are people, 2, 3 firms. */
+    private static void hangs(String what, Told base, Spanned fact, Answer answer, long without, long with) {
+        GiftRegister none = made("ppff");
+        base.on(none);
+        is(what + " without it", answer.as(none, 9), without);
+        GiftRegister r = made("ppff");
+        base.on(r);
+        r.next(5);
+        fact.on(r, 100, 101);
+        is(what + " on the day", answer.as(r, 5), with);
+        is(what + " ahead of when it was told", answer.as(r, 4), without);
+        is(what + " far behind", answer.as(r, 9999), with);
+        GiftRegister other = made("ppff");
+        base.on(other);
+        fact.on(other, 99, 100);
+        is(what + " the day ahead", answer.as(other, 5), without);
+        fact.on(other, 101, 102);
+        is(what + " the day behind", answer.as(other, 5), without);
+        fact.on(other, 100, 101);
+        is(what + " then on the day", answer.as(other, 5), with);
+    }
+
+    private static void onTheDayAsOf() {
+        sentence("OWNERS, on a day d; AS OF a day t");
+        hangs("part", x -> { }, (x, a, b) -> x.owns(0, 2, 7, a, b), (x, t) -> x.part(0, 2, 100, t), 0, 7 * ONE);
+        hangs("chain", x -> { }, (x, a, b) -> x.owns(0, 2, 7, a, b), (x, t) -> x.chain(0, 2, 100, t), 0, 2);
+        hangs("chain of two", x -> x.owns(2, 3, 9, 0, -1), (x, a, b) -> x.owns(0, 2, 7, a, b), (x, t) -> x.chain(0, 3, 100, t), 0, 3);
+        hangs("part by two", x -> x.owns(0, 2, 10000, 0, -1), (x, a, b) -> x.owns(2, 3, 7, a, b), (x, t) -> x.part(0, 3, 100, t), 0, 7 * ONE);
+        hangs("head", x -> { }, (x, a, b) -> x.owns(0, 2, 5001, a, b), (x, t) -> x.head(2, 100, t), 2, 0);
+        hangs("head by two", x -> x.owns(2, 3, 5001, 0, -1), (x, a, b) -> x.owns(0, 2, 5001, a, b), (x, t) -> x.head(3, 100, t), 2, 0);
+        sentence("DEGREE: KIN on day d; AS OF a day t");
+        hangs("degree", x -> { }, (x, a, b) -> x.kin(0, 1, a, b), (x, t) -> x.degree(0, 1, 100, t), 5, 1);
+        hangs("a gift's kin", x -> given(x, "tell if kin;", 1, 0), (x, a, b) -> x.kin(0, 1, a, b), (x, t) -> x.judged(0, t, 1), -1, 0);
+        hangs("a gift's count", x -> given(x, "", 2, 0, 2, 1), (x, a, b) -> x.kin(1, 0, a, b), (x, t) -> x.judged(0, t, 8), 1, 2);
+        hangs("a matter's kin", x -> about(x, "sit if kin;", 1), (x, a, b) -> x.kin(0, 1, a, b), (x, t) -> x.sits(0, 0, t), 0, 2);
+        hangs("a matter's kinpart", x -> about(x, "sit if kinpart>0;", 2, x.owns(1, 2, 1, 0, -1)),
+            (x, a, b) -> x.kin(0, 1, a, b), (x, t) -> x.sits(0, 0, t), 0, 2);
+        hangs("a matter's count", x -> about(x, "sit if count>0;", 2, x.gift(2, 1, 0, 100, false, 1, 1)),
+            (x, a, b) -> x.kin(0, 1, a, b), (x, t) -> x.sits(0, 0, t), 0, 2);
+        sentence("a MATTER, by OWNS on its day; AS OF a day t");
+        hangs("part", x -> about(x, "sit if part>0;", 2), (x, a, b) -> x.owns(0, 2, 1, a, b), (x, t) -> x.sits(0, 0, t), 0, 2);
+        hangs("kinpart", x -> about(x, "sit if kinpart>0;", 2, x.kin(0, 1, 0, -1)),
+            (x, a, b) -> x.owns(1, 2, 1, a, b), (x, t) -> x.sits(0, 0, t), 0, 2);
+        hangs("its head", x -> about(x, "sit if kin;", 2), (x, a, b) -> x.owns(0, 2, 5001, a, b), (x, t) -> x.sits(0, 0, t), 0, 2);
+        sentence("a POST, a LAW, for the day; AS OF a day t");
+        hangs("a post", x -> about(x, "sit if post;old 0;", 2), (x, a, b) -> x.post(0, 2, a, b - 1), (x, t) -> x.sits(0, 0, t), 0, 2);
+        hangs("a gift of the day", x -> about(x, "year 1;sit if count>0;", 2), (x, a, b) -> x.gift(2, 0, 0, a, false, 1, 1),
+            (x, t) -> x.sits(0, 0, t), 0, 2);
+    }
+
+    /** A law, and gifts of day 100 by the first of each pair to the second. */
+    private static void given(GiftRegister r, String text, int... pairs) {
+        law(r, 0, text);
+        for (int i = 0; i + 1 < pairs.length; i += 2) {
+            r.gift(pairs[i], pairs[i + 1], 0, 100, false, 1, 1);
+        }
+    }
+
+    /** A law, a matter of day 100 and a vote of person 0 in it; what else was told comes as an argument. */
+    private static void about(GiftRegister r, String text, int f, int... also) {
+        law(r, 0, text);
+        r.matter(f, 100);
+        r.member(0);
+        r.vote(0, 0, true);
+    }
+
+    /** A gift of day 102 that was told, and an entry of day 100. */
+    private static void listed(GiftRegister r, int giver, int byEntry) {
+        r.gift(giver, 0, 0, 102, false, 1, 1);
+        r.tell(0);
+        entry(r, "naa", byEntry, 100, 1);
+    }
+
+    private static void onTheDayInGroups() {
+        sentence("GROUPS on the day; AS OF a day t");
+        Spanned owns = (x, a, b) -> x.owns(2, 3, 5001, a, b);
+        hangs("a gift's count, its giver", x -> given(x, "", 3, 0, 2, 0), owns, (x, t) -> x.judged(0, t, 8), 1, 2);
+        hangs("a gift's count, another giver", x -> given(x, "", 2, 0, 3, 0), owns, (x, t) -> x.judged(0, t, 8), 1, 2);
+        hangs("a matter's count, its party", x -> about(x, "sit if count>0;", 3, x.gift(2, 0, 0, 100, false, 1, 1)),
+            owns, (x, t) -> x.sits(0, 0, t), 0, 2);
+        hangs("a matter's count, the giver", x -> about(x, "sit if count>0;", 2, x.gift(3, 0, 0, 100, false, 1, 1)),
+            owns, (x, t) -> x.sits(0, 0, t), 0, 2);
+        hangs("a post, the matter's party", x -> about(x, "sit if post;", 3, x.post(0, 2, 0, 100)), owns, (x, t) -> x.sits(0, 0, t), 0, 2);
+        hangs("a post, its place", x -> about(x, "sit if post;", 2, x.post(0, 3, 0, 100)), owns, (x, t) -> x.sits(0, 0, t), 0, 2);
+        hangs("a post that ended ahead, its place", x -> about(x, "sit if post;", 2, x.post(0, 3, 0, 90)), owns, (x, t) -> x.sits(0, 0, t), 0, 2);
+        hangs("warm, the matter's party", x -> about(x, "", 3, x.gift(2, 0, 0, 100, false, 1, 1)), owns, (x, t) -> x.links(t, 2), 0, 1);
+        hangs("warm, the giver", x -> about(x, "", 2, x.gift(3, 0, 0, 100, false, 1, 1)), owns, (x, t) -> x.links(t, 2), 0, 1);
+        hangs("warm, a gift of another day", x -> about(x, "", 2, x.gift(3, 0, 0, 90, false, 1, 1)), owns, (x, t) -> x.links(t, 3), 0, 1);
+        hangs("joined, the gift's giver", x -> listed(x, 3, 2), owns, (x, t) -> x.joined(t), 0, 1);
+        hangs("joined, the entry's giver", x -> listed(x, 2, 3), owns, (x, t) -> x.joined(t), 0, 1);
+        hangs("quorum", x -> about(x, "sit if count>0;", 3, x.gift(2, 0, 0, 100, false, 1, 1)), owns, (x, t) -> x.quorum(0, t), 1, 0);
     }
 
     // ---------------------------------------------------------------- the document: parties and facts
@@ -1809,6 +1908,13 @@ public final class EdgeTest {
         nothing.worth(0, 1, 1000000);
         is("another worth", nothing.judged(0, 1, 1), -1);
         is("as of the day ahead", nothing.judged(0, 0, 1), 0);
+        GiftRegister most = made("pf");
+        law(most, 0, "tell within 1 if most=20;tell within 2 if most=21;");
+        most.gift(1, 0, 0, 0, false, 0, 20);
+        most.next(3);
+        most.worth(0, 0, 21);
+        is("most as of the day ahead", most.judged(0, 2, 2), 1);
+        is("most as of the day", most.judged(0, 3, 2), 2);
     }
 
     /** The rule for a gift whose least, or whose most, is 500. */
@@ -2576,6 +2682,15 @@ public final class EdgeTest {
         for (int t = 0; t < 5; t++) {
             is("as of " + t, r.links(t, 3), due[t]);
         }
+        GiftRegister back = made("pf");
+        back.member(0);
+        back.matter(1, 5);
+        back.vote(0, 0, true);
+        back.gift(1, 0, 0, 4, false, 1, 1);
+        back.next(3);
+        back.back(0, 4);
+        is("back, as of the day ahead of when it was told", back.links(2, 2), 1);
+        is("back, as of then", back.links(3, 2), 0);
         GiftRegister s = made("pf");
         s.member(0);
         s.matter(1, 5);
